@@ -68,6 +68,7 @@ public final class BillTest {
         EXPECT.refused("above of another call", BillTest::chain, NONE, x -> x.bill(1, 1, 0));
         EXPECT.refused("above of depth 4", BillTest::chain, NONE, x -> x.bill(0, 1, 3));
         EXPECT.refused("above was ordered", BillTest::ordered, NONE, x -> x.bill(0, 1, 0));
+        EXPECT.refused("number of bill 0 taken", BillTest::chain, NONE, x -> x.bill(0, 10, NONE));
         EXPECT.refused("number taken, master", BillTest::chain, NONE, x -> x.bill(0, 12, NONE));
         EXPECT.refused("number taken, house", BillTest::chain, NONE, x -> x.bill(0, 12, 0));
         BillMatch x = new BillMatch();

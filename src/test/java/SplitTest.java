@@ -78,6 +78,10 @@ public final class SplitTest {
         EXPECT.same("next free number", 13, x.look(5, 1));
         EXPECT.same("split again", 6, x.split(0, 10));
         EXPECT.same("next free number then", 15, x.look(6, 1));
+        x.bill(0, 99999998, NONE);
+        x.line(7, 10, 1);
+        EXPECT.same("split before the last number", 8, x.split(7, 1));
+        EXPECT.same("the last number", 99999999, x.look(8, 1));
     }
 
     private static void edge(BillMatch x) {

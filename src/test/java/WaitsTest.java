@@ -26,6 +26,9 @@ public final class WaitsTest {
         x.on(1, 0);
         expect.same("the first one then", 4, x.waits(0));
         expect.same("the second one then", 5, x.waits(1));
+        x.land(0, 1);
+        expect.same("box 0", 0, x.waits(0));
+        expect.same("how many then", 3, x.count(6));
         expect.end();
     }
 }
