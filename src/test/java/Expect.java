@@ -1,14 +1,33 @@
 import java.util.function.Consumer;
+import java.util.function.Predicate;
 import java.util.function.ToLongFunction;
 
 /** Counts what is not as due, and ends the test with exit code 1 if there was anything. */
 final class Expect {
     private final String test;
+    private String sentence = "";
+    private int sentences = 0;
     private int checks = 0;
     private int wrong = 0;
 
     Expect(String test) {
         this.test = test;
+    }
+
+    /** A sentence of the document, in its own words, and the test that is its own. */
+    void sentence(String words, Runnable itsTest) {
+        sentence = words;
+        sentences++;
+        int checksBefore = checks;
+        try {
+            itsTest.run();
+        } catch (RuntimeException e) {
+            tell("the test itself", "an end", e.toString());
+        }
+        if (checks == checksBefore) {
+            tell("the test itself", "a check", "none");
+        }
+        sentence = "";
     }
 
     void same(String what, long due, long got) {
@@ -34,50 +53,44 @@ final class Expect {
         same(what, due.getSimpleName(), outcome(call));
     }
 
+    /** After the set-up the call answers as due. */
+    void answers(String what, Consumer<BillMatch> setUp, long due, ToLongFunction<BillMatch> call) {
+        BillMatch x = new BillMatch();
+        setUp.accept(x);
+        same(what, due, call.applyAsLong(x));
+    }
+
+    void allowed(String what, Consumer<BillMatch> setUp, Predicate<BillMatch> call) {
+        answers(what, setUp, 1, x -> call.test(x) ? 1 : 0);
+    }
+
     /** After the set-up the call answers as due, and an object that had the call looks like one that had it not. */
     void refused(String what, Consumer<BillMatch> setUp, long due, ToLongFunction<BillMatch> call) {
-        BillMatch with = new BillMatch();
-        setUp.accept(with);
-        same(what, due, call.applyAsLong(with));
-        sameState(what, setUp, with);
+        answers(what, setUp, due, call);
+        changesNothing(what, setUp, call);
+    }
+
+    void denied(String what, Consumer<BillMatch> setUp, Predicate<BillMatch> call) {
+        refused(what, setUp, 0, x -> call.test(x) ? 1 : 0);
     }
 
     /** The same for a call that throws. */
     void thrown(String what, Consumer<BillMatch> setUp, Class<?> due, ToLongFunction<BillMatch> call) {
-        BillMatch with = new BillMatch();
-        setUp.accept(with);
-        fails(what, due, () -> call.applyAsLong(with));
-        sameState(what, setUp, with);
+        BillMatch x = new BillMatch();
+        setUp.accept(x);
+        fails(what, due, () -> call.applyAsLong(x));
+        changesNothing(what, setUp, call);
     }
 
-    private void sameState(String what, Consumer<BillMatch> setUp, BillMatch with) {
-        BillMatch without = new BillMatch();
-        setUp.accept(without);
-        same(what + " changes nothing", picture(without), picture(with));
+    private void changesNothing(String what, Consumer<BillMatch> setUp, ToLongFunction<BillMatch> call) {
+        Consumer<BillMatch> andTheCall = x -> {
+            setUp.accept(x);
+            outcome(() -> call.applyAsLong(x));
+        };
+        same(what + " changes nothing", Picture.of(setUp), Picture.of(andTheCall));
     }
 
-    /** All that can be asked of the object, apart from lines one by one. */
-    static String picture(BillMatch x) {
-        StringBuilder text = new StringBuilder();
-        for (int what = 0; what <= 8; what++) {
-            text.append(x.count(what)).append(' ');
-        }
-        for (int bill = 0; bill < x.count(0); bill++) {
-            text.append("bill ");
-            for (int what = 0; what <= 15; what++) {
-                text.append(x.look(bill, what)).append(' ');
-            }
-        }
-        for (int box = 0; box < x.count(1); box++) {
-            text.append("box ");
-            for (int what = 0; what < 10 + x.seen(box, 4); what++) {
-                text.append(x.seen(box, what)).append(' ');
-            }
-        }
-        return text.toString();
-    }
-
-    static String outcome(Runnable call) {
+    private static String outcome(Runnable call) {
         try {
             call.run();
             return "nothing";
@@ -88,11 +101,13 @@ final class Expect {
 
     private void tell(String what, String due, String got) {
         wrong++;
-        System.out.println(test + ": " + what + ": due is " + due + ", answered " + got);
+        String where = sentence.isEmpty() ? "" : " \"" + sentence + "\"";
+        System.out.println(test + ":" + where + ": " + what + ": due is " + due + ", answered " + got);
     }
 
     void end() {
-        System.out.println(test + ": " + checks + " checks, " + wrong + " wrong");
+        String told = sentences == 0 ? "" : sentences + " sentences, ";
+        System.out.println(test + ": " + told + checks + " checks, " + wrong + " wrong");
         if (wrong != 0 || checks == 0) {
             System.exit(1);
         }

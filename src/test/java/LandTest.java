@@ -4,67 +4,73 @@ public final class LandTest {
     private static final Expect EXPECT = new Expect("promise 6");
 
     public static void main(String[] args) {
-        ordinary();
-        refusals();
-        shares();
+        EXPECT.sentence("A box LANDS: true", LandTest::lands);
+        EXPECT.sentence("false if there is none such", LandTest::noneSuch);
+        EXPECT.sentence("false if .. it has landed", LandTest::hasLanded);
+        EXPECT.sentence("false if .. kilograms are not 0 .. 1000000", LandTest::kilograms);
+        EXPECT.sentence("60 at most", LandTest::lastOne);
         EXPECT.end();
     }
 
-    private static void one(BillMatch x) {
+    private static void two(BillMatch x) {
         x.box(0, 5, 10);
+        x.box(0, 6, 10);
     }
 
-    private static void ordinary() {
+    private static void lands() {
         BillMatch x = new BillMatch();
-        x.box(0, 1, 10);
-        x.box(0, 2, 10);
-        x.box(0, 3, 10);
-        EXPECT.same("not landed", NONE, x.seen(0, 3));
-        EXPECT.same("0 kilograms", true, x.land(0, 0));
-        EXPECT.same("1000000 kilograms", true, x.land(2, 1000000));
-        EXPECT.same("landed 0", 0, x.seen(0, 3));
-        EXPECT.same("landed 2", 1000000, x.seen(2, 3));
-        EXPECT.same("landed 1", NONE, x.seen(1, 3));
-        EXPECT.same("its weight stays", 10, x.seen(2, 2));
-        EXPECT.same("boxes that landed", 2, x.count(5));
-        EXPECT.same("a second time", false, x.land(0, 7));
-        EXPECT.same("landed 0 still", 0, x.seen(0, 3));
+        two(x);
+        EXPECT.same("not landed", NONE, x.seen(1, 3));
+        EXPECT.same("box 1", true, x.land(1, 30));
+        EXPECT.same("box 1 has", 30, x.seen(1, 3));
+        EXPECT.same("box 0 has not", NONE, x.seen(0, 3));
+        EXPECT.same("its weight stays", 10, x.seen(1, 2));
+        EXPECT.same("boxes that landed", 1, x.count(5));
+        EXPECT.same("box 0", true, x.land(0, 10));
+        EXPECT.same("boxes that landed then", 2, x.count(5));
     }
 
-    private static long bit(boolean answer) {
-        return answer ? 1 : 0;
-    }
-
-    private static void refusals() {
-        EXPECT.refused("box -1", LandTest::one, 0, x -> bit(x.land(-1, 1)));
-        EXPECT.refused("box 1", LandTest::one, 0, x -> bit(x.land(1, 1)));
-        EXPECT.refused("-1 kilograms", LandTest::one, 0, x -> bit(x.land(0, -1)));
-        EXPECT.refused("1000001 kilograms", LandTest::one, 0, x -> bit(x.land(0, 1000001)));
-    }
-
-    /** Seven kilograms on four bills: 2, 2, 2, 1, in the order of the bills' numbers here. */
-    private static void shares() {
-        BillMatch x = new BillMatch();
-        for (int bill = 0; bill < 5; bill++) {
-            x.bill(0, 100 - bill, NONE);
+    private static void noneSuch() {
+        int[] none = {-1, 2, 3, 59, 60, Integer.MAX_VALUE, Integer.MIN_VALUE};
+        for (int box : none) {
+            EXPECT.denied("box " + box, LandTest::two, x -> x.land(box, 1));
         }
-        x.box(0, 1, 500);
+    }
+
+    private static void hasLanded() {
+        EXPECT.denied("with more", LandTest::oneLanded, x -> x.land(0, 8));
+        EXPECT.denied("with as much", LandTest::oneLanded, x -> x.land(0, 7));
+        EXPECT.denied("with nothing", LandTest::oneLanded, x -> x.land(0, 0));
+        EXPECT.denied("once it landed with nothing", LandTest::landedWithNothing, x -> x.land(0, 7));
+        EXPECT.allowed("the other one", LandTest::oneLanded, x -> x.land(1, 7));
+    }
+
+    private static void oneLanded(BillMatch x) {
+        two(x);
         x.land(0, 7);
-        x.on(0, 4);
-        EXPECT.same("alone", 7, x.look(4, 8));
-        x.on(0, 0);
-        EXPECT.same("of two, first", 4, x.look(0, 8));
-        EXPECT.same("of two, second", 3, x.look(4, 8));
-        x.on(0, 2);
-        x.on(0, 1);
-        int[] due = {2, 2, 2, 0, 1};
-        for (int bill = 0; bill < 5; bill++) {
-            EXPECT.same("of four, bill " + bill, due[bill], x.look(bill, 8));
+    }
+
+    private static void landedWithNothing(BillMatch x) {
+        two(x);
+        x.land(0, 0);
+    }
+
+    private static void kilograms() {
+        int[] none = {-1, 1000001, Integer.MAX_VALUE, Integer.MIN_VALUE};
+        for (int weight : none) {
+            EXPECT.denied(weight + " kilograms", LandTest::two, x -> x.land(0, weight));
         }
-        x.box(0, 2, 1);
-        x.on(1, 2);
-        EXPECT.same("a box that has not landed", 2, x.look(2, 8));
-        x.land(1, 40);
-        EXPECT.same("a second box", 42, x.look(2, 8));
+        BillMatch x = new BillMatch();
+        two(x);
+        EXPECT.same("the least", true, x.land(0, 0));
+        EXPECT.same("the largest", true, x.land(1, 1000000));
+        EXPECT.same("the least is there", 0, x.seen(0, 3));
+        EXPECT.same("the largest is there", 1000000, x.seen(1, 3));
+        EXPECT.same("both have landed", 2, x.count(5));
+    }
+
+    private static void lastOne() {
+        EXPECT.allowed("box 59", Given::sixtyBoxes, x -> x.land(59, 1));
+        EXPECT.denied("box 60", Given::sixtyBoxes, x -> x.land(60, 1));
     }
 }
