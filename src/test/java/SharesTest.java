@@ -4,8 +4,8 @@ public final class SharesTest {
     private static final Expect EXPECT = new Expect("terms, shares");
 
     public static void main(String[] args) {
-        EXPECT.sentence("FLOOR(weight / bills), and one more for as many of these bills as kilograms are left", SharesTest::small);
-        EXPECT.sentence("a box .. lands .. with so many kilograms: the largest", SharesTest::largest);
+        EXPECT.sentence("FLOOR(weight / bills), and one more for as many .. as kilograms are left", SharesTest::small);
+        EXPECT.sentence("A box LANDS once, with so many kilograms.", SharesTest::largest);
         EXPECT.sentence("the least numbers first", SharesTest::leastFirst);
         EXPECT.sentence("that of each box on it that has landed", SharesTest::eachBox);
         EXPECT.sentence("SHORT: own weight less landed weight, if it is above 0", SharesTest::isShort);
